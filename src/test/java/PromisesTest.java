@@ -132,9 +132,8 @@ public final class PromisesTest {
         z.stone(6, 1, 100000 + 50000 - 1);
         due("wide 1", z.bursts(6, 0), 1);
         z = new LeaningTower();
-        z.ring(7, 995, 0, 500);
-        z.ring(6, 0, 0, 0);
-        due("wide 10: 995000 and 49750", z.bursts(6, 0), 1);
+        z.ring(7, 953, 0, 500);
+        due("wide 10: 953000 and 47650", z.bursts(6, 0), 1);
         z.ring(7, 952, 0, 500);
         due("wide 10: 952000 and 47600", z.bursts(6, 0), 0);
     }
@@ -432,6 +431,14 @@ public final class PromisesTest {
         bad("stop when (5<6);", 1, 12);
         bad("stop when [5]<6;", 1, 12);
         bad("stop when all];", 1, 13);
+        bad("stop when ]all];", 1, 10);
+        bad("stop when [all[;", 1, 14);
+        bad("stop when [all,;", 1, 14);
+        bad("stop when [all);", 1, 14);
+        bad("limit lead (1];", 1, 13);
+        bad("limit lead )1);", 1, 11);
+        bad("limit lead min(1]2);", 1, 16);
+        bad("limit lead min[1,2];", 1, 14);
         bad("stop when all and;", 1, 17);
         bad("stop when not;", 1, 13);
         bad("stop when all or or all;", 1, 17);
@@ -515,6 +522,12 @@ public final class PromisesTest {
         bad("stop when " + times("[", 5) + times("(", 4) + "1", 5, 18);
         bad("stop when " + times("[", 8) + "min(1,2)", 5, 21);
         bad("stop when " + times("[", 8) + "max 1", 1, 22);
+        good("limit pipe " + times("min(", 8) + "1" + times(",2)", 8) + ";");
+        good("limit pipe " + times("max(1,", 8) + "1" + times(")", 8) + ";");
+        bad("limit pipe " + times("min(", 9) + "1", 5, 11 + 4 * 8 + 3);
+        bad("limit pipe " + times("max(1,", 9) + "1", 5, 11 + 6 * 8 + 3);
+        good("limit pipe min(" + times("(", 7) + "1" + times(")", 7) + ",1)*" + times("(", 8) + "1"
+                + times(")", 8) + ";");
         bad("limit pipe " + times("(", 8) + "1(", 1, 20);
         good("limit pipe " + times("(", 8) + "1" + times(")", 8) + "+" + times("(", 8) + "1" + times(")", 8) + ";");
         good("stop when " + times("not ", 150) + "all;");
@@ -751,6 +764,8 @@ public final class PromisesTest {
         holds("(0-9999999)*9999999=0-1000000*1000000", true);
         holds("(0-9999999)*9999999*(0-9999999)*9999999=1000000*1000000", true);
         holds("9999999*9999999*0=0", true);
+        holds("1000000*1000000/3*3=1000000*1000000-1", true);
+        holds("(0-1000000*1000000/3)*3=1-1000000*1000000", true);
         holds("load 15=64 and load 0=60", true);
         holds("load 15 > load 0", true);
     }
@@ -918,6 +933,11 @@ public final class PromisesTest {
         due("there are bounds", x.odd(0, 399), -1);
         x.reading(0, 5, 100);
         due("the third", x.odd(0, 399), 3);
+        x.annul(3);
+        x.reading(0, 5, 20);
+        due("they touch", x.odd(0, 399), -1);
+        x.reading(0, 5, 100);
+        due("the last", x.odd(0, 399), 6);
         x.reading(0, 6, 110);
         due("none such", x.odd(0, 399), -1);
         due("only those of the days", x.odd(6, 6), -1);
@@ -1040,6 +1060,15 @@ public final class PromisesTest {
         due("drawn at once", x.drawn(1), -2);
         due("more at once", x.spoons(0, 3, 0, 30000), 60);
         due("more at once", x.drawn(0), 1);
+        // One draw at once of the second, or two of the first: the second is dearer, but once is enough.
+        LeaningTower y = new LeaningTower();
+        y.pipe(0, 15, 100);
+        y.spoon(0, 0, 100);
+        y.spoon(1, 0, 150);
+        due("once of the dearer", y.spoons(0, 3, -20000, 0), 150);
+        due("once of the dearer", y.drawn(0), 1);
+        due("once of the dearer", y.drawn(1), -2);
+        due("once of the dearer", y.drawn(2), -2);
         due("too little slack", x.spoons(0, 3, 0, 20000), -1);
         due("the last day counts, too", x.spoons(0, 1, BILLION, 20000), -1);
         due("the last day counts, too", x.spoons(0, 1, BILLION, 55147), 0);
