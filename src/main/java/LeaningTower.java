@@ -960,7 +960,13 @@ public final class LeaningTower {
                 emit(what);
                 next();
             } else if (what == LOAD) {
-                loadPart();
+                next();
+                if (token == NUMBER && !isColumn(number)) {
+                    fail(4, start);
+                }
+                int column = number;
+                expect(token == NUMBER);
+                emit(column * STEPS + LOAD);
             } else if (what == OPEN) {
                 if (opens(OPEN, opened)) {
                     sum(opened + 1);
@@ -978,16 +984,6 @@ public final class LeaningTower {
             } else {
                 fail(1, start);
             }
-        }
-
-        private void loadPart() {
-            next();
-            if (token == NUMBER && !isColumn(number)) {
-                fail(4, start);
-            }
-            int column = number;
-            expect(token == NUMBER);
-            emit(column * STEPS + LOAD);
         }
 
         /** Goes into a bracket, if it stands here and may; brackets bound how deep tests and sums go. */

@@ -491,6 +491,19 @@ public final class PromisesTest {
         bad("12345678", 1, 7);
         bad("1234567", 1, 0);
         bad("limit lead load 12345678;", 1, 23);
+        // What stood on the tape behind its end is no part of the text.
+        LeaningTower x = new LeaningTower();
+        x.feed(0x61626364, 0x65666768, 0x696a6b6c, 0x6d6e6f70, 0x71727374);
+        x.end(8);
+        due("abcdefgh, cut", x.mandate(0), -1);
+        due("abcdefgh, cut", x.fault(1), 0);
+        x.feed(0x31323334, 0x35363738, 0x39303132, 0x33343536, 0x37383930);
+        x.end(7);
+        due("1234567, cut", x.mandate(0), -1);
+        due("1234567, cut", x.fault(1), 0);
+        x.feed(0x73746f70, 0x20776865, 0x6e20616c, 0x6c3b2020, 0x31323334);
+        x.end(14);
+        due("stop when all; cut", x.mandate(0), 1);
     }
 
     private static String times(String what, int n) {
