@@ -58,6 +58,11 @@ public final class GroundTest {
         for (int column = 0; column < 16; column++) {
             Check.due("100 at first", x.settled(column, 1), 312 * 150 / 1000);
         }
+        x.ring(0, 320, 0, 0);
+        for (int column = 0; column < 16; column++) {
+            Check.due("100 at first", x.settled(column, 1), 20 * 150 / 1000);
+        }
+        x.ring(0, 5000, 0, 0);
         for (int column : new int[] {0, 15}) {
             Check.due("stiff 1", x.stiff(column, 1), true);
             Check.due("settled", x.settled(column, 1), 312 * 150 / 10);
@@ -311,6 +316,13 @@ public final class GroundTest {
         Check.due("16 tons, a little to the north", with(x -> x.ring(0, 16, 0, -1)).load(8, 0), 0);
         Check.due("16 tons, a little to the south", with(x -> x.ring(0, 16, 0, 1)).load(8, 0), 1);
         Check.due("16 tons, a little to the south", with(x -> x.ring(0, 16, 0, 1)).load(7, 0), 0);
+        LeaningTower y = with(x -> x.ring(0, 15, 0, 0));
+        y.ring(1, 1, 0, 1);
+        Check.due("679999 / 680000", y.load(7, 0), 0);
+        Check.due("680001 / 680000", y.load(8, 0), 1);
+        y.ring(1, 1, 0, -1);
+        Check.due("680001 / 680000", y.load(7, 0), 1);
+        Check.due("679999 / 680000", y.load(8, 0), 0);
     }
 
     private static void loadIsZeroAtLeast() {

@@ -15,6 +15,8 @@ public final class SoughtTest {
         oddOfTwo();
         oddIsTheLeast();
         oddOnItsDays();
+        oddOfBoundsThatTouch();
+        oddAskedFirst();
         noPipesTold();
         pipeToldAndGone();
         spoonsOnTheFirstAndTheLastDay();
@@ -24,11 +26,17 @@ public final class SoughtTest {
         slackOnEachDay();
         slackIsOfTheFirstDay();
         leastLitres();
+        leastLitresOfManyWays();
+        oneDrawForMany();
+        dearerWayAheadOfTheLeast();
         ofLikeOnes();
         moreThanKnown();
+        moreThanKnownOfEachColumn();
+        moreThanWhatTheStonesGive();
         drawnOfTheLatest();
         burstOfNothing();
         burstByWeight();
+        wideAtFirst();
         burstByTurning();
         burstAtItsEnds();
         firstOf200();
@@ -312,6 +320,40 @@ public final class SoughtTest {
         Check.due("so they fit", x.odd(0, 399), Check.NONE);
     }
 
+    private static void oddOfBoundsThatTouch() {
+        Check.by("odd: a reading without which there are bounds, if they touch alone");
+        LeaningTower x = new LeaningTower();
+        x.gauge(0, 0, 0, 10);
+        x.reading(0, 5, 0);
+        x.reading(0, 5, 20);
+        x.reading(0, 5, 100);
+        Check.due("the others touch", x.odd(5, 5), 3);
+        x.reading(0, 5, 19);
+        Check.due("they touch still", x.odd(5, 5), 3);
+        x.reading(0, 5, 21);
+        Check.due("they don't", x.odd(5, 5), Check.NONE);
+    }
+
+    private static void oddAskedFirst() {
+        Check.by("odd: by what lean, by the works known, is more, whatever was asked ahead of it");
+        LeaningTower x = new LeaningTower();
+        x.gauge(0, 0, 0, 10);
+        x.pipe(4, 8, 136);
+        x.reading(0, 4, 0);
+        x.reading(0, 5, 5000);
+        x.reading(0, 5, 5030);
+        Check.due("the last", x.odd(4, 5), 4);
+        LeaningTower y = new LeaningTower();
+        y.gauge(0, 0, 0, 10);
+        y.pipe(4, 8, 136);
+        y.reading(0, 4, 0);
+        y.reading(0, 5, 5000);
+        y.reading(0, 5, 0);
+        Check.due("the one that did not move", y.odd(4, 5), 4);
+        y.reading(0, 4, -5000);
+        Check.due("none such", y.odd(4, 5), Check.NONE);
+    }
+
     private static void noPipesTold() {
         Check.by("spoons: none or one of up to three pipes told");
         LeaningTower x = new LeaningTower();
@@ -471,6 +513,75 @@ public final class SoughtTest {
         Check.due("10 and 11, the lesser pipe first", x.drawn(1), 2);
     }
 
+    /** What is drawn on the first day must hold against a pipe known; 5 litres do, but miss the aim, and 6 reach it. */
+    private static void leastLitresOfManyWays() {
+        Check.by("spoons: the least litres of all ways");
+        int[][] pairs = {{0, 1}, {0, 2}, {1, 2}, {1, 0}, {2, 0}, {2, 1}};
+        for (int[] pair : pairs) {
+            LeaningTower x = new LeaningTower();
+            x.pipe(0, 15, 5);
+            x.spoon(pair[0], 0, 5);
+            x.spoon(pair[1], 0, 6);
+            for (int n = 1; n <= 8; n++) {
+                Check.due("6 at once", x.spoons(0, n, -1, 0), 6);
+                for (int i = 0; i < n; i++) {
+                    Check.due("drawn", x.drawn(i), i == 0 ? pair[1] : -2);
+                }
+            }
+            for (int n = 2; n <= 8; n++) {
+                Check.due("5 and 5", x.spoons(0, n, -2758, 0), 10);
+                Check.due("5 at once", x.drawn(0), pair[0]);
+                Check.due("and 5 as late as may be", x.drawn(n - 1), pair[0]);
+                Check.due("5 and 6", x.spoons(0, n, -2759, 0), 11);
+                Check.due("the lesser pipe at once", x.drawn(0), Math.min(pair[0], pair[1]));
+                Check.due("the other as late as may be", x.drawn(n - 1), Math.max(pair[0], pair[1]));
+            }
+        }
+    }
+
+    /** Each day pulls to the south; so many draws of 4 litres hold it, and one, made at once, of less than all these. */
+    private static void oneDrawForMany() {
+        Check.by("spoons: the least litres, be they drawn at once or one behind the other");
+        int[][] pairs = {{0, 1}, {0, 2}, {1, 2}, {1, 0}, {2, 0}, {2, 1}};
+        for (int[] pair : pairs) {
+            for (int draws = 2; draws <= 7; draws++) {
+                LeaningTower x = new LeaningTower();
+                for (int day = 0; day < draws; day++) {
+                    x.pipe(day, 8, day == 0 ? 1 : 4);
+                }
+                x.spoon(pair[0], 7, 4);
+                x.spoon(pair[1], 7, 4 * draws - 2);
+                for (int n = draws; n <= 8; n++) {
+                    Check.due("one of " + draws + " in " + n, x.spoons(0, n, -37, 0), 4 * draws - 2);
+                    Check.due("at once", x.drawn(0), pair[1]);
+                    Check.due("none behind it", x.drawn(1), -2);
+                    Check.due("none behind it", x.drawn(n - 1), -2);
+                    Check.due("all of 4 for a little more", x.spoons(0, n, -38, 0), 4 * draws);
+                    Check.due("all of 4 for a little more", x.drawn(draws - 1), pair[0]);
+                }
+            }
+        }
+    }
+
+    /** A little and then much hold what the second day pulls; but much at once holds it, too. */
+    private static void dearerWayAheadOfTheLeast() {
+        Check.by("spoons: the least litres, though a dearer way is told ahead of it by its pipes");
+        int[][] pairs = {{0, 1}, {0, 2}, {1, 2}, {1, 0}, {2, 0}, {2, 1}};
+        for (int[] pair : pairs) {
+            LeaningTower x = new LeaningTower();
+            x.pipe(0, 8, 1);
+            x.pipe(1, 8, 3);
+            x.spoon(pair[0], 7, 1);
+            x.spoon(pair[1], 7, 4);
+            for (int n = 2; n <= 8; n++) {
+                Check.due("much at once", x.spoons(0, n, 0, 0), 4);
+                Check.due("much at once", x.drawn(0), pair[1]);
+                Check.due("none behind it", x.drawn(1), -2);
+                Check.due("both for a little more", x.spoons(0, n, -37, 0), 5);
+            }
+        }
+    }
+
     private static void ofLikeOnes() {
         Check.by("spoons: of like ones the first in which two differ is none, else the lesser pipe");
         LeaningTower x = new LeaningTower();
@@ -515,6 +626,42 @@ public final class SoughtTest {
         Check.due("it goes over, were it with 40 litres", y.spoons(4, 1, Check.BILLION, 0), Check.NONE);
         Check.due("a mandate does not hinder", Check.mandate(y, "stop when all;", 0), 2);
         Check.due("frost and 40 litres", y.spoons(3, 1, -2942, 0), 40);
+    }
+
+    private static void moreThanKnownOfEachColumn() {
+        Check.by("spoons: more than what is known, of each column");
+        for (int column = 0; column < 16; column++) {
+            LeaningTower x = new LeaningTower();
+            x.spoon(0, 7, 1);
+            x.pipe(3, column, 100);
+            int lean = Math.floorDiv(1000 * 5000 * (2 * column - 15), 1360);
+            Check.due("column " + column, x.spoons(3, 1, lean, Check.BILLION), 0);
+            Check.due("column " + column, x.spoons(3, 1, lean - 1, Check.BILLION), 1);
+            Check.due("of no other day", x.spoons(2, 1, -1, Check.BILLION), 1);
+            Check.due("of no other day", x.spoons(4, 1, lean, Check.BILLION), 0);
+        }
+    }
+
+    private static void moreThanWhatTheStonesGive() {
+        Check.by("spoons: so that lean is not above an aim, by all that makes it");
+        LeaningTower x = new LeaningTower();
+        for (int ring = 0; ring < 8; ring++) {
+            x.ring(ring, 4000, 20 * (ring % 5), 60 * ring);
+        }
+        x.lead(500, -900, 11, 12);
+        x.frost(10, 12);
+        x.water(12, 90);
+        for (int n = 1; n <= 8; n++) {
+            int lean = x.lean(10 + n);
+            int greatest = x.lean(10);
+            for (int day = 11; day <= 10 + n; day++) {
+                greatest = Math.max(greatest, x.lean(day));
+            }
+            Check.due("the aim", x.spoons(10, n, lean, Check.BILLION), 0);
+            Check.due("one above it", x.spoons(10, n, lean - 1, Check.BILLION), Check.NONE);
+            Check.due("the slack", x.spoons(10, n, Check.BILLION, greatest - x.lean(10)), 0);
+            Check.due("one less", x.spoons(10, n, Check.BILLION, greatest - x.lean(10) - 1), Check.NONE);
+        }
     }
 
     private static void drawnOfTheLatest() {
@@ -577,6 +724,21 @@ public final class SoughtTest {
         Check.due("1000000 at first", y.bursts(0, 0), 1);
         y.stone(0, 100, 1000000);
         Check.due("1000000 at most", y.bursts(0, 0), 1);
+    }
+
+    private static void wideAtFirst() {
+        Check.by("wide (1 .. 100; 10 at first), bears (0 .. 1000000; 1000000)");
+        for (int ring = 0; ring < 7; ring++) {
+            LeaningTower x = new LeaningTower();
+            x.ring(7, 952, 0, 500);
+            Check.due("952 tons: 47600 at 500", x.bursts(ring, 0), 0);
+            x.ring(7, 953, 0, 493);
+            Check.due("953 tons: 46982 at 493", x.bursts(ring, 0), 0);
+            x.ring(7, 953, 0, 494);
+            Check.due("953 tons: 47078 at 494", x.bursts(ring, 0), 1);
+            x.ring(7, 950, 0, 500);
+            Check.due("950 tons: 47500 at 500", x.bursts(ring, 0), 0);
+        }
     }
 
     private static void burstByTurning() {

@@ -11,6 +11,7 @@ public final class TextsTest {
         letters();
         digits();
         sideBySide();
+        wordsSpelled();
         lengthOfWords();
         lengthOfNumbers();
         endsTooSoon();
@@ -28,6 +29,7 @@ public final class TextsTest {
         quotients();
         fromTheLeft();
         signs();
+        otherSigns();
         limits();
         leastOfWhyNot();
         Check.end("TextsTest");
@@ -141,6 +143,14 @@ public final class TextsTest {
             Check.due("cut to " + cut[0] + " fault", x.fault(0), 1);
             Check.due("cut to " + cut[0] + " place", x.fault(1), cut[1]);
         }
+        String[] whole = {"abcdefghi", "12345678", "abcdefgh5", "1234567x"};
+        for (String text : whole) {
+            LeaningTower x = new LeaningTower();
+            Check.tape(x, text);
+            x.end(text.length() - 1);
+            Check.due(text + " cut by one", x.mandate(0), Check.NONE);
+            Check.due(text + " cut by one, place", x.fault(1), 0);
+        }
         bytesFromTheHighest();
     }
 
@@ -238,6 +248,35 @@ public final class TextsTest {
         good("stop when not[all]and[all]or(1)<(2);");
         good("limit pipe min(1,2)+3;");
         bad("limit pipe min2(1,2);", 1, 14);
+    }
+
+    private static void wordsSpelled() {
+        Check.by("words, whole");
+        String text = "allow lead when not all and lean<rate or worst>water;limit pipe day+tons-drawn*load 7;"
+                + "limit frost min(1,2)/max(3,4);stop when 5=6;";
+        good(text);
+        int at = 0;
+        while (at < text.length()) {
+            int end = at;
+            while (text.charAt(end) >= 'a' && text.charAt(end) <= 'z') {
+                end++;
+            }
+            if (end > at) {
+                misspelled(text, at, end);
+            }
+            at = end + 1;
+        }
+    }
+
+    private static void misspelled(String text, int at, int end) {
+        bad(text.substring(0, at) + "q" + text.substring(at + 1), 1, at);
+        bad(text.substring(0, end - 1) + "q" + text.substring(end), 1, at);
+        bad(text.substring(0, end) + "q" + text.substring(end), 1, at);
+        bad(text.substring(0, at) + "q" + text.substring(at), 1, at);
+        bad(text.substring(0, at) + text.substring(at + 1), 1, at);
+        if (end - at > 2 || text.charAt(at) != 'o') {
+            bad(text.substring(0, end - 1) + text.substring(end), 1, at);
+        }
     }
 
     private static void lengthOfWords() {
@@ -561,6 +600,33 @@ public final class TextsTest {
         bad("stop when 1==2;", 1, 12);
         bad("stop when 1<2<3;", 1, 13);
         bad("stop when 1;", 1, 11);
+    }
+
+    private static void otherSigns() {
+        Check.by("no sign stands for another");
+        for (String sign : new String[] {"(", "[", ")", "]", ";", "<", "=", "!", ".", ":", "%", "&", " 7 "}) {
+            bad("limit pipe min(1" + sign + "2);", 1, 16 + sign.length() / 3);
+        }
+        for (String sign : new String[] {"(", "[", "]", ",", ";", "<", "=", "!", ".", ":", "%", "&", " 7 "}) {
+            bad("limit pipe (1" + sign + ";", 1, 13 + sign.length() / 3);
+            bad("limit pipe max(1,2" + sign + ";", 1, 18 + sign.length() / 3);
+        }
+        for (String sign : new String[] {"(", "[", ")", ",", ";", "<", "=", "!", "+", "*", "%", "&", " 7 "}) {
+            bad("stop when [all" + sign + ";", 1, 14 + sign.length() / 3);
+        }
+        for (String sign : new String[] {"(", "[", ")", "]", ",", "<", "=", "!", "+", "*", "%", "&", " 7 "}) {
+            bad("stop when all" + sign, 1, 13 + sign.length() / 3);
+        }
+        for (String sign : new String[] {")", "]", ",", ";", "<", "=", "!", "+", "*", "-", "/", "&"}) {
+            bad("stop when " + sign + "all];", 1, 10);
+            bad("limit pipe " + sign + "1);", 1, 11);
+        }
+        for (String sign : new String[] {"[", ")", "]", ",", ";", "<", "=", "!", "+", "*", "-", "/", " 7 "}) {
+            bad("limit pipe min" + sign + "1,2);", 1, 14 + sign.length() / 3);
+            bad("limit pipe max" + sign + "1,2);", 1, 14 + sign.length() / 3);
+        }
+        bad("stop when (all);", 1, 11);
+        bad("limit pipe [1];", 1, 11);
     }
 
     private static void limits() {
