@@ -9,6 +9,7 @@ public final class BookTest {
         numbersFromOneOn();
         eachKindAsTheLast();
         fullBook();
+        the512thCall();
         knownAtNone();
         knownAtTheLast();
         knownAtOne();
@@ -137,6 +138,24 @@ public final class BookTest {
         Check.due("right 201", x.right(201), Check.NO_LEAN);
         Check.due("200 readings fit", x.fit(0, 0, false), 200 - 1000);
         Check.due("200 readings fit", x.fit(0, 0, true), 1 + 1000);
+    }
+
+    private static void the512thCall() {
+        Check.by("an object is used for at most 512 calls");
+        LeaningTower x = new LeaningTower();
+        int calls = 0;
+        for (int i = 1; i <= 40; i++, calls++) {
+            Check.due("feed", x.feed(0x20202020, 0x20202020, 0x20202020, 0x20202020, 0x20202020), 20 * i);
+        }
+        Check.due("mandate", x.mandate(399), 1);
+        calls++;
+        for (int act = 2; act <= 200; act++, calls++) {
+            Check.due("pipe", x.pipe(act, 8, 1), act);
+        }
+        for (; calls < 511; calls++) {
+            Check.due("lean", x.lean(calls - 111), Math.max(0, Math.min(199, calls - 113)) * 50000 / 1360);
+        }
+        Check.due("the 512th", x.breaches(), 199);
     }
 
     private static void knownAtNone() {

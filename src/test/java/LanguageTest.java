@@ -1,4 +1,6 @@
+import com.sun.management.ThreadMXBean;
 import java.io.IOException;
+import java.lang.management.ManagementFactory;
 import java.lang.reflect.Constructor;
 import java.lang.reflect.Field;
 import java.lang.reflect.Method;
@@ -43,6 +45,7 @@ public final class LanguageTest {
             refuse("4", "a sign above 127");
         }
         methodLengths(code);
+        room();
         System.out.println(wrong == 0 ? "LanguageTest: the rules are kept" : wrong + " rules are not kept");
         if (wrong != 0) {
             System.exit(1);
@@ -130,6 +133,47 @@ public final class LanguageTest {
             }
             if (last - i + 1 > 60) {
                 refuse("11", "is long: " + lines[i].trim());
+            }
+        }
+    }
+
+    /** The dearest runs: what they make is far below the room that all calls of one run live in. */
+    private static void room() {
+        ThreadMXBean threads = (ThreadMXBean) ManagementFactory.getThreadMXBean();
+        long thread = Thread.currentThread().getId();
+        for (int kind = 0; kind <= 4; kind++) {
+            run(kind);
+            long made = threads.getThreadAllocatedBytes(thread);
+            run(kind);
+            made = threads.getThreadAllocatedBytes(thread) - made;
+            // A field or an element has eight bytes at most; a twentieth of the room is more than enough.
+            if (made > 8 * 7300000 / 20) {
+                refuse("12", "a run of kind " + kind + " makes " + made + " bytes");
+            }
+        }
+    }
+
+    private static void run(int kind) {
+        LeaningTower x = new LeaningTower();
+        for (int k = 0; k < 3; k++) {
+            x.spoon(k, k, 1 + k);
+        }
+        for (int call = 3; call < 512; call += 2) {
+            if (kind == 0) {
+                x.feed(0x6c696d69, 0x74206c65, 0x61642031, 0x2b312b31, 0x2b312b31 + call % 2);
+                x.mandate(call % 400);
+            } else if (kind == 1) {
+                x.spoons(0, 8, -1000000000 + call, 1000000000);
+                x.breaches();
+            } else if (kind == 2) {
+                x.reading(0, call % 400, call);
+                x.odd(0, 399);
+            } else if (kind == 3) {
+                x.lead(1, 1, 0, 399);
+                x.as(call % 8);
+            } else {
+                x.cause(call, call);
+                x.lurch(call, true);
             }
         }
     }

@@ -27,6 +27,7 @@ public final class NumbersTest {
         sought();
         wrongOrder();
         noneSuch();
+        refusedText();
         fullBook();
         fullTape();
         fullList();
@@ -365,6 +366,15 @@ public final class NumbersTest {
         refused("spoons", (x, n) -> x.spoons(7, 4, n[0], Check.BILLION), Check.NONE, -1999999999);
         Check.by("lurch: -2 if no set may have done it");
         refused("lurch", (x, n) -> x.lurch(n[0], true), -2, 1000000);
+    }
+
+    private static void refusedText() {
+        Check.by("mandate: NONE with a fault");
+        // The furnished tower tells the fault of the same text already; so nothing but the tape may go.
+        refused("mandate of a text with a fault", (x, n) -> {
+            Check.tape(x, "limit pipe 1,;");
+            return x.mandate(0);
+        }, Check.NONE);
     }
 
     private static void fullBook() {
