@@ -77,6 +77,7 @@ public final class LeaningTower {
     private static final int SEMICOLON = 37;
     private static final int END = 38;
     private static final int BAD = 39;
+    private static final int BLANK = 40;
 
     private final Told wet;
     private final Told warm;
@@ -790,11 +791,18 @@ public final class LeaningTower {
     private static final class Reader {
         private final byte[] text = new byte[TAPE];
         private int length;
-        /** The first byte of the token at hand, and the one behind it. */
-        private int start;
-        private int at;
+        /** Of each token of the text: what it is, its first byte, its byte at fault if it may not stand, its number. */
+        private final int[] kinds = new int[TAPE + 1];
+        private final int[] starts = new int[TAPE + 1];
+        private final int[] wrongs = new int[TAPE + 1];
+        private final int[] numbers = new int[TAPE + 1];
+        private int tokens;
+        /** The token at hand, and how many have been at hand. */
         private int token;
+        private int start;
+        private int wrong;
         private int number;
+        private int gone;
         private int fault;
         private int place = NONE;
         /** Of each statement: its word, its work, how many cells; its cells. */
@@ -838,25 +846,24 @@ public final class LeaningTower {
 
         /** The code of the tape, which goes; null with a fault. */
         int[] read() {
-            start = 0;
-            at = 0;
-            cells = 0;
+            split();
+            drop();
             fault = 0;
             place = NONE;
-            for (int n = 0; n <= STATEMENTS && fault == 0 && isMore(); n++) {
-                if (n < STATEMENTS) {
-                    statement();
-                } else {
-                    fail(5, at);
-                }
+            cells = 0;
+            gone = 0;
+            next();
+            for (int n = 0; n < STATEMENTS && fault == 0 && token != END; n++) {
+                statement();
             }
-            drop();
-            return fault == 0 ? Arrays.copyOf(code, cells) : null;
+            if (token != END) {
+                fail(5, start);
+            }
+            return fault == 0 && isWithin(cells, 0, TAPE) ? Arrays.copyOf(code, cells) : null;
         }
 
         private void statement() {
             int head = cells;
-            next();
             int kind = token;
             int work = 0;
             expect(kind == STOP || kind == ALLOW || kind == LIMIT);
@@ -873,9 +880,7 @@ public final class LeaningTower {
                 expect(token == WHEN);
                 test(0);
             }
-            if (token != SEMICOLON) {
-                fail(1, start);
-            }
+            expect(token == SEMICOLON);
             if (head + 2 < cells && cells <= TAPE) {
                 code[head + 2] = cells - head - 3;
             }
@@ -925,10 +930,8 @@ public final class LeaningTower {
             sum(opened);
             int sign = token;
             expect(sign == LESS || sign == MORE || sign == SAME);
-            if (fault == 0) {
-                sum(opened);
-                emit(sign);
-            }
+            sum(opened);
+            emit(sign);
         }
 
         private void sum(int opened) {
@@ -982,14 +985,14 @@ public final class LeaningTower {
                     emit(what);
                 }
             } else {
-                fail(1, start);
+                fail(1, wrong);
             }
         }
 
         /** Goes into a bracket, if it stands here and may; brackets bound how deep tests and sums go. */
         private boolean opens(int bracket, int opened) {
             if (token != bracket) {
-                fail(1, start);
+                fail(1, wrong);
             } else if (opened >= OPEN_AT_ONCE) {
                 fail(5, start);
             }
@@ -999,7 +1002,7 @@ public final class LeaningTower {
 
         private void expect(boolean isRight) {
             if (!isRight) {
-                fail(1, start);
+                fail(1, wrong);
             }
             next();
         }
@@ -1020,74 +1023,96 @@ public final class LeaningTower {
             }
         }
 
-        /** Whether a byte stands behind the token and the blanks behind it; goes to it. */
-        private boolean isMore() {
-            while (at < length && (text[at] == 10 || text[at] == 32)) {
-                at++;
-            }
-            return at < length;
-        }
-
         private void next() {
-            if (fault != 0) {
-                return;
-            }
-            boolean more = isMore();
-            start = at;
-            if (!more) {
-                token = END;
-            } else if (!isLetter(at) && !isDigit(at)) {
-                token = signAt(at);
-                at++;
-            } else if (isLetter(at - 1) || isDigit(at - 1)) {
-                // Words and numbers side by side need a blank; this is a fault ahead of an overlong one.
-                fail(1, at);
-            } else if (isLetter(at)) {
-                takeWord();
-            } else {
-                takeNumber();
+            if (fault == 0 && gone >= 0 && gone < tokens && gone <= TAPE) {
+                token = kinds[gone];
+                start = starts[gone];
+                wrong = wrongs[gone];
+                number = numbers[gone];
+                gone++;
             }
         }
 
-        private void takeWord() {
-            while (at < length && at - start < LETTERS && isLetter(at)) {
-                at++;
-            }
-            if (isLetter(at)) {
-                fail(1, at);
-                return;
-            }
-            token = BAD;
-            for (int word = LEAD; word <= MAX && token == BAD; word++) {
-                if (isSpelled(spelling(word))) {
-                    token = word;
+        /** Finds the tokens of the text, END behind them; ahead of its reading, which calls deep enough without that. */
+        private void split() {
+            tokens = 0;
+            int at = 0;
+            for (int i = 0; i < TAPE && at < length; i++) {
+                if (isLetter(at) || isDigit(at)) {
+                    at = takeRun(at);
+                } else {
+                    takeSign(at);
+                    at++;
                 }
             }
+            put(END, length, length, 0);
         }
 
-        private void takeNumber() {
-            number = 0;
-            while (at < length && at - start < DIGITS && isDigit(at)) {
-                number = 10 * number + text[at] - '0';
-                at++;
+        /** Takes the letters or the digits that stand from a byte on; the byte behind them. */
+        private int takeRun(int from) {
+            boolean isWord = isLetter(from);
+            int to = from;
+            while (to < length && (isWord ? isLetter(to) : isDigit(to))) {
+                to++;
             }
-            if (isDigit(at)) {
-                fail(1, at);
+            int most = isWord ? LETTERS : DIGITS;
+            if (isLetter(from - 1) || isDigit(from - 1)) {
+                // Words and numbers side by side need a blank; this is a fault ahead of an overlong one.
+                put(BAD, from, from, 0);
+            } else if (to - from > most) {
+                put(BAD, from, from + most, 0);
+            } else if (isWord) {
+                put(wordOf(from, to), from, from, 0);
             } else {
-                token = NUMBER;
+                put(NUMBER, from, from, numberOf(from, to));
+            }
+            return to;
+        }
+
+        private void takeSign(int at) {
+            int sign = signAt(at);
+            if (sign != BLANK) {
+                put(sign, at, at, 0);
             }
         }
 
-        private boolean isSpelled(String word) {
-            if (word.length() != at - start || at > length) {
+        private void put(int kind, int from, int wrongAt, int value) {
+            if (tokens <= TAPE) {
+                kinds[tokens] = kind;
+                starts[tokens] = from;
+                wrongs[tokens] = wrongAt;
+                numbers[tokens] = value;
+                tokens++;
+            }
+        }
+
+        private int wordOf(int from, int to) {
+            for (int word = LEAD; word <= MAX; word++) {
+                if (isSpelled(spelling(word), from, to)) {
+                    return word;
+                }
+            }
+            return BAD;
+        }
+
+        private boolean isSpelled(String word, int from, int to) {
+            if (word.length() != to - from || from < 0 || to > length) {
                 return false;
             }
             for (int i = 0; i < word.length(); i++) {
-                if (word.charAt(i) != text[start + i]) {
+                if (word.charAt(i) != text[from + i]) {
                     return false;
                 }
             }
             return true;
+        }
+
+        private int numberOf(int from, int to) {
+            int value = 0;
+            for (int i = Math.max(0, from); i < to && i < length; i++) {
+                value = 10 * value + text[i] - '0';
+            }
+            return value;
         }
 
         private boolean isLetter(int i) {
@@ -1100,6 +1125,8 @@ public final class LeaningTower {
 
         private int signAt(int i) {
             switch (i >= 0 && i < length ? text[i] : 0) {
+                case 10:
+                case 32: return BLANK;
                 case '(': return OPEN;
                 case ')': return CLOSE;
                 case '[': return OPEN_TEST;
