@@ -1,14 +1,8 @@
-import java.nio.charset.StandardCharsets;
-import java.util.Arrays;
-
 /** What each promise of the document says, with answers reckoned by hand. */
 public final class PromisesTest {
-    private static final long NO_LEAN = -2000000000L;
-    private static final long NO_SETTLED = -1000000000000001L;
-    private static final int BILLION = 1000000000;
-
-    private static int wrong;
-    private static String promise = "";
+    private static final int NO_LEAN = Check.NO_LEAN;
+    private static final long NO_SETTLED = Check.NO_SETTLED;
+    private static final int BILLION = Check.BILLION;
 
     public static void main(String[] args) {
         newObject();
@@ -52,39 +46,19 @@ public final class PromisesTest {
         all();
         full();
         behindTheLastCall();
-        System.out.println(wrong == 0 ? "PromisesTest: all answers are as due" : wrong + " answers are not as due");
-        if (wrong != 0) {
-            System.exit(1);
-        }
+        Check.end("PromisesTest");
     }
 
     private static void due(String what, long got, long want) {
-        if (got != want) {
-            wrong++;
-            System.out.println(promise + ": " + what + " answered " + got + ", due is " + want);
-        }
+        Check.due(what, got, want);
     }
 
     private static void due(String what, boolean got, boolean want) {
-        due(what, got ? 1 : 0, want ? 1 : 0);
-    }
-
-    private static void tape(LeaningTower x, byte[] text) {
-        x.end(0);
-        byte[] padded = Arrays.copyOf(text, (text.length + 19) / 20 * 20);
-        for (int at = 0; at < padded.length; at += 20) {
-            int[] five = new int[5];
-            for (int i = 0; i < 20; i++) {
-                five[i / 4] = five[i / 4] << 8 | padded[at + i] & 255;
-            }
-            due("feed", x.feed(five[0], five[1], five[2], five[3], five[4]), at + 20);
-        }
-        due("end", x.end(text.length), true);
+        Check.due(what, got, want);
     }
 
     private static int mandate(LeaningTower x, String text, int day) {
-        tape(x, text.getBytes(StandardCharsets.ISO_8859_1));
-        return x.mandate(day);
+        return Check.mandate(x, text, day);
     }
 
     private static void good(String text) {
@@ -103,7 +77,7 @@ public final class PromisesTest {
     }
 
     private static void newObject() {
-        promise = "1";
+        Check.by("1");
         LeaningTower x = new LeaningTower();
         for (int what = 0; what <= 4; what++) {
             due("all", x.all(what), 0);
@@ -139,7 +113,7 @@ public final class PromisesTest {
     }
 
     private static void feedAndEnd() {
-        promise = "2, 3";
+        Check.by("2, 3");
         LeaningTower x = new LeaningTower();
         for (int i = 1; i <= 40; i++) {
             due("feed", x.feed(i, i, i, i, i), 20 * i);
@@ -166,7 +140,7 @@ public final class PromisesTest {
     }
 
     private static void stiff() {
-        promise = "4";
+        Check.by("4");
         LeaningTower x = new LeaningTower();
         x.ring(0, 1000, 0, 0);
         due("settled", x.settled(3, 1), 9);
@@ -185,7 +159,7 @@ public final class PromisesTest {
     }
 
     private static void ring() {
-        promise = "5";
+        Check.by("5");
         LeaningTower x = new LeaningTower();
         due("ring", x.ring(0, 1000, 0, 100), true);
         due("load", x.load(15, 0), 64);
@@ -213,7 +187,7 @@ public final class PromisesTest {
     }
 
     private static void stone() {
-        promise = "6";
+        Check.by("6");
         LeaningTower x = new LeaningTower();
         x.ring(3, 10, 0, 0);
         due("stone", x.stone(3, 1, 9999), true);
@@ -232,7 +206,7 @@ public final class PromisesTest {
     }
 
     private static void water() {
-        promise = "7";
+        Check.by("7");
         LeaningTower x = new LeaningTower();
         x.ring(0, 1000, 0, 0);
         due("water", x.water(2, 100), true);
@@ -253,7 +227,7 @@ public final class PromisesTest {
     }
 
     private static void warmth() {
-        promise = "8";
+        Check.by("8");
         LeaningTower x = new LeaningTower();
         x.gauge(0, 100, 0, 0);
         for (int day = 0; day < 6; day++) {
@@ -277,7 +251,7 @@ public final class PromisesTest {
     }
 
     private static void gauge() {
-        promise = "9";
+        Check.by("9");
         LeaningTower x = new LeaningTower();
         x.warmth(0, 3);
         x.reading(3, 5, 100);
@@ -299,7 +273,7 @@ public final class PromisesTest {
     }
 
     private static void lead() {
-        promise = "10";
+        Check.by("10");
         LeaningTower x = new LeaningTower();
         due("lead", x.lead(1000, 20000, 2, 3), 1);
         due("ahead of it", x.load(15, 1), 0);
@@ -320,7 +294,7 @@ public final class PromisesTest {
     }
 
     private static void pipe() {
-        promise = "11";
+        Check.by("11");
         LeaningTower x = new LeaningTower();
         due("pipe", x.pipe(2, 3, 7), 1);
         due("ahead of the day", x.settled(3, 2), 0);
@@ -340,7 +314,7 @@ public final class PromisesTest {
     }
 
     private static void frost() {
-        promise = "12";
+        Check.by("12");
         LeaningTower x = new LeaningTower();
         due("frost", x.frost(2, 3), 1);
         due("ahead of the day", x.settled(3, 2), 0);
@@ -361,7 +335,7 @@ public final class PromisesTest {
     }
 
     private static void reading() {
-        promise = "13";
+        Check.by("13");
         LeaningTower x = new LeaningTower();
         due("reading", x.reading(0, 0, -BILLION), 1);
         due("reading", x.reading(3, 399, BILLION), 2);
@@ -377,13 +351,13 @@ public final class PromisesTest {
     }
 
     private static void mandate() {
-        promise = "14";
+        Check.by("14");
         LeaningTower x = new LeaningTower();
         due("empty text", x.mandate(0), 1);
         due("refused text", mandate(x, "stop", 0), -1);
         due("it goes, refused or not", x.end(1), false);
         due("empty text", x.mandate(399), 2);
-        tape(x, "stop when all;".getBytes(StandardCharsets.ISO_8859_1));
+        Check.tape(x, "stop when all;");
         due("day 400", x.mandate(400), -2);
         due("it goes", x.end(1), false);
         due("day -1", x.mandate(-1), -2);
@@ -404,7 +378,7 @@ public final class PromisesTest {
     }
 
     private static void faultsOfText() {
-        promise = "14, 15: fault 1";
+        Check.by("14, 15: fault 1");
         bad("x", 1, 0);
         bad("  sto when all;", 1, 2);
         bad("stop", 1, 4);
@@ -463,7 +437,7 @@ public final class PromisesTest {
         bad("limit lead 1" + (char) 0 + ";", 1, 12);
         bad("limit lead 1.5;", 1, 12);
         bad("stop when lean ! 5;", 1, 15);
-        promise = "14, 15: words and numbers side by side";
+        Check.by("14, 15: words and numbers side by side");
         bad("limit lead load5;", 1, 15);
         bad("limit lead 5when;", 1, 12);
         bad("stop when lean>5and all;", 1, 16);
@@ -477,7 +451,7 @@ public final class PromisesTest {
     }
 
     private static void faultsOfLength() {
-        promise = "14, 15: the 9th letter, the 8th digit";
+        Check.by("14, 15: the 9th letter, the 8th digit");
         bad("abcdefghi", 1, 8);
         bad("abcdefgh", 1, 0);
         bad("abcdefghijkl when all;", 1, 8);
@@ -515,12 +489,12 @@ public final class PromisesTest {
     }
 
     private static void faultsOfNumbersAndCounts() {
-        promise = "14, 15: fault 4";
+        Check.by("14, 15: fault 4");
         bad("limit lead load 16;", 4, 16);
         bad("limit lead load 9999999;", 4, 16);
         bad("limit lead load\n 0016x", 4, 17);
         good("limit lead load 15;");
-        promise = "14, 15: fault 5";
+        Check.by("14, 15: fault 5");
         String statement = "limit pipe 1;";
         good(times(statement, 20));
         good(times(statement, 20) + " \n");
@@ -547,7 +521,7 @@ public final class PromisesTest {
     }
 
     private static void faultCall() {
-        promise = "15";
+        Check.by("15");
         LeaningTower x = new LeaningTower();
         due("ahead of any", x.fault(0), 0);
         due("ahead of any", x.fault(1), -1);
@@ -566,7 +540,7 @@ public final class PromisesTest {
     }
 
     private static void annul() {
-        promise = "16";
+        Check.by("16");
         LeaningTower x = new LeaningTower();
         x.pipe(0, 15, 1000);
         x.lead(500, 3, 0, 399);
@@ -597,7 +571,7 @@ public final class PromisesTest {
     }
 
     private static void as() {
-        promise = "17";
+        Check.by("17");
         LeaningTower x = new LeaningTower();
         due("as 1 of none", x.as(1), false);
         due("as 0", x.as(0), true);
@@ -629,7 +603,7 @@ public final class PromisesTest {
     }
 
     private static void lean() {
-        promise = "18";
+        Check.by("18");
         LeaningTower x = new LeaningTower();
         x.pipe(0, 15, 1000);
         due("day 0", x.lean(0), 0);
@@ -652,7 +626,7 @@ public final class PromisesTest {
     }
 
     private static void settledAndLoad() {
-        promise = "19, 20";
+        Check.by("19, 20");
         LeaningTower x = new LeaningTower();
         x.ring(0, 1000, 0, 0);
         due("settled", x.settled(0, 0), 0);
@@ -669,7 +643,7 @@ public final class PromisesTest {
     }
 
     private static void above() {
-        promise = "21";
+        Check.by("21");
         LeaningTower x = new LeaningTower();
         due("never", x.above(0), -1);
         due("from the first day", x.above(-1), 0);
@@ -684,7 +658,7 @@ public final class PromisesTest {
     }
 
     private static void force() {
-        promise = "22";
+        Check.by("22");
         LeaningTower x = new LeaningTower();
         due("none", x.force(0), -1);
         due("mandate", x.mandate(10), 1);
@@ -704,7 +678,7 @@ public final class PromisesTest {
     }
 
     private static void may() {
-        promise = "23";
+        Check.by("23");
         LeaningTower x = new LeaningTower();
         due("no mandate", x.may(0, 1, 0), 1);
         mandate(x, "", 0);
@@ -739,7 +713,7 @@ public final class PromisesTest {
     }
 
     private static void sums() {
-        promise = "23: tests and sums";
+        Check.by("23: tests and sums");
         holds("all", true);
         holds("not all", false);
         holds("not not all", true);
@@ -784,7 +758,7 @@ public final class PromisesTest {
     }
 
     private static void facts() {
-        promise = "23: facts of a day";
+        Check.by("23: facts of a day");
         LeaningTower x = new LeaningTower();
         x.pipe(0, 15, 1000);
         x.pipe(1, 0, 300);
@@ -842,7 +816,7 @@ public final class PromisesTest {
     }
 
     private static void breaches() {
-        promise = "24, 25";
+        Check.by("24, 25");
         LeaningTower x = new LeaningTower();
         x.pipe(5, 0, 10);
         due("no mandate", x.breaches(), 1);
@@ -885,7 +859,7 @@ public final class PromisesTest {
     }
 
     private static void right() {
-        promise = "26";
+        Check.by("26");
         LeaningTower x = new LeaningTower();
         x.gauge(1, 10, 3, 0);
         x.warmth(0, 5);
@@ -906,7 +880,7 @@ public final class PromisesTest {
     }
 
     private static void fit() {
-        promise = "27";
+        Check.by("27");
         LeaningTower x = new LeaningTower();
         due("no readings", x.fit(0, 399, false), -2000000001L);
         x.pipe(5, 15, 1000);
@@ -936,7 +910,7 @@ public final class PromisesTest {
     }
 
     private static void odd() {
-        promise = "28";
+        Check.by("28");
         LeaningTower x = new LeaningTower();
         due("no readings", x.odd(0, 399), -1);
         x.gauge(0, 0, 0, 10);
@@ -976,7 +950,7 @@ public final class PromisesTest {
     }
 
     private static void spoon() {
-        promise = "29";
+        Check.by("29");
         LeaningTower x = new LeaningTower();
         due("pipe -1", x.spoon(-1, 0, 1), false);
         due("pipe 3", x.spoon(3, 0, 1), false);
@@ -996,7 +970,7 @@ public final class PromisesTest {
     }
 
     private static void spoonsLeast() {
-        promise = "30, 31";
+        Check.by("30, 31");
         LeaningTower x = new LeaningTower();
         due("ahead of any", x.drawn(0), -1);
         x.spoon(0, 0, 100);
@@ -1034,7 +1008,7 @@ public final class PromisesTest {
     }
 
     private static void spoonsOrder() {
-        promise = "30, 31: of like ones";
+        Check.by("30, 31: of like ones");
         LeaningTower x = new LeaningTower();
         x.spoon(0, 0, 20);
         x.spoon(1, 0, 10);
@@ -1058,7 +1032,7 @@ public final class PromisesTest {
     }
 
     private static void spoonsSlack() {
-        promise = "30: slack";
+        Check.by("30: slack");
         LeaningTower x = new LeaningTower();
         x.pipe(0, 15, 100);
         x.pipe(2, 0, 300);
@@ -1090,7 +1064,7 @@ public final class PromisesTest {
     }
 
     private static void spoonsRefused() {
-        promise = "30: numbers that can't be";
+        Check.by("30: numbers that can't be");
         LeaningTower x = new LeaningTower();
         due("day -1", x.spoons(-1, 1, 0, 0), -1);
         due("day 400", x.spoons(400, 1, 0, 0), -1);
@@ -1109,7 +1083,7 @@ public final class PromisesTest {
     }
 
     private static void bursts() {
-        promise = "32";
+        Check.by("32");
         LeaningTower x = new LeaningTower();
         x.ring(3, 10, 0, 5);
         x.ring(4, 20, 50, -30);
@@ -1142,7 +1116,7 @@ public final class PromisesTest {
     }
 
     private static void first() {
-        promise = "33";
+        Check.by("33");
         LeaningTower x = new LeaningTower();
         due("none", x.first(true, 0, 10000000), -1);
         x.ring(7, 100, 50, 0);
@@ -1176,7 +1150,7 @@ public final class PromisesTest {
     }
 
     private static void causes() {
-        promise = "34, 35, 36, 37";
+        Check.by("34, 35, 36, 37");
         LeaningTower x = new LeaningTower();
         due("nothing did nothing", x.lurch(0, true), 0);
         due("nothing did nothing", x.lurch(0, false), 0);
@@ -1224,7 +1198,7 @@ public final class PromisesTest {
     }
 
     private static void all() {
-        promise = "38";
+        Check.by("38");
         LeaningTower x = new LeaningTower();
         x.lead(1, 0, 0, 0);
         x.pipe(0, 0, 1);
@@ -1248,7 +1222,7 @@ public final class PromisesTest {
     }
 
     private static void full() {
-        promise = "10 .. 16: 200 acts";
+        Check.by("10 .. 16: 200 acts");
         LeaningTower x = new LeaningTower();
         for (int i = 1; i <= 200; i++) {
             due("lead", x.lead(1000, 20000, 0, 399), i);
@@ -1257,7 +1231,7 @@ public final class PromisesTest {
         due("pipe", x.pipe(0, 0, 1), -1);
         due("frost", x.frost(0, 0), -1);
         due("reading", x.reading(0, 0, 0), -1);
-        tape(x, "stop".getBytes(StandardCharsets.ISO_8859_1));
+        Check.tape(x, "stop");
         due("mandate", x.mandate(0), -2);
         due("no text is read", x.fault(0), 0);
         due("the tape goes", x.end(1), false);
@@ -1270,7 +1244,7 @@ public final class PromisesTest {
 
     /** What later calls answer is free; but none may throw. */
     private static void behindTheLastCall() {
-        promise = "at most 512 calls";
+        Check.by("at most 512 calls");
         LeaningTower x = new LeaningTower();
         for (int i = 0; i < 2000; i++) {
             x.feed(i, i, i, i, i);
